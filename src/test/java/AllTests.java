@@ -1,0 +1,19 @@
+/** Runs every test of the project. */
+final class AllTests {
+    private AllTests() {
+    }
+
+    public static void main(String[] args) throws Exception {
+        EnteringTest.run();
+        EntriesTest.run();
+        DecisionsTest.run();
+        DiscardsTest.run();
+        OrderTest.run();
+        AskingTest.run();
+        SheetTest.run();
+        System.out.println(Check.passed + " passed, " + Check.failed + " failed");
+        if (Check.failed > 0) {
+            System.exit(1);
+        }
+    }
+}
