@@ -11,6 +11,8 @@ final class AllTests {
         OrderTest.run();
         AskingTest.run();
         SheetTest.run();
+        ModelTest.run();
+        LanguageTest.run();
         System.out.println(Check.passed + " passed, " + Check.failed + " failed");
         if (Check.failed > 0) {
             System.exit(1);

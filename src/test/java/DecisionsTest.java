@@ -140,7 +140,9 @@ final class DecisionsTest {
         Make.places(office, 0, 1, 2, 3);
         Make.places(office, 1, 3, 1, 2);
         office.discards(3, 1);
+        Check.equal("16: before", office.net(0), 40);
         Check.equal("22: DSQ", office.what(1, 0, Make.DSQ, 0), 50);
+        Check.equal("22: NET is as before", office.net(0), 40);
         Check.equal("22: AVERAGE", office.what(1, 0, Make.AVERAGE, 0), 20);
         Check.equal("22: a place that another has, too", office.what(1, 0, Make.PLACE, 1), 25);
         Check.equal("22: a race becomes sailed, so that one is left out", office.what(2, 0, Make.PLACE, 1), 20);

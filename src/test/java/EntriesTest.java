@@ -95,11 +95,20 @@ final class EntriesTest {
         Check.equal("6: points in an abandoned race", office.points(2, 0), RegattaOffice.NONE);
         office.boat();
         Check.equal("6: without one, 5 N with N as it is now", office.points(1, 1), 20);
+        RegattaOffice full = Make.regatta(40, 16);
+        full.finish(0, 39, 1);
+        full.code(15, 39, Make.AVERAGE, 0);
+        Check.equal("6: AVERAGE in the last race there may be", full.points(15, 39), 10);
+        Check.equal("6: of the last boat there may be", full.points(15, 38), 410);
     }
 
     private static void penalties() {
         RegattaOffice office = Make.regatta(5, 1);
         Make.places(office, 0, 1, 2, 3, 4, 0);
+        RegattaOffice four = Make.regatta(4, 1);
+        four.finish(0, 0, 1);
+        four.penalty(0, 0, 1);
+        Check.equal("7: 1 percent, 0.4 rounded down", four.points(0, 0), 10);
         office.penalty(0, 0, 100);
         Check.equal("7: 100 percent", office.points(0, 0), 60);
         office.penalty(0, 0, 1);

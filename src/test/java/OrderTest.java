@@ -9,6 +9,7 @@ final class OrderTest {
         stepOne();
         stepOneWithFewerScores();
         stepTwo();
+        stepTwoInTheMostRaces();
         stepThreeAndFour();
         tiesThatAreNone();
         splitting();
@@ -48,6 +49,10 @@ final class OrderTest {
         Check.equal("20: by NET, not by GROSS", Make.order(office, 4), "0 3 2 1");
         office.boat();
         Check.equal("20: one more boat", Make.order(office, 5), "0 3 2 1 4");
+        office.protest(0, 4, Make.STATED, 0);
+        Check.equal("19: right behind a change", office.rank(4), 1);
+        office.clear(1, 0);
+        Check.equal("20: right behind a change", office.at(5), 0);
     }
 
     private static void stepOne() {
@@ -108,6 +113,25 @@ final class OrderTest {
         Check.equal("16: NET is one", office.net(0) == office.net(1), true);
         Check.equal("21: discarded scores count in step 2", office.tie(0, 1), 2);
         Check.equal("20: the lesser of them", office.rank(1) < office.rank(0), true);
+    }
+
+    private static void stepTwoInTheMostRaces() {
+        RegattaOffice office = Make.regatta(2, 16);
+        for (int race = 0; race < 16; race++) {
+            Make.places(office, race, 1, 1);
+        }
+        Check.equal("21: all the same", office.tie(0, 1), 4);
+        Make.places(office, 0, 1, 2);
+        Make.places(office, 1, 2, 1);
+        Check.equal("21: the second race of 16", office.tie(0, 1), 2);
+        Check.equal("19: the lesser in it", office.rank(1), 1);
+        Make.places(office, 1, 1, 1);
+        office.discards(16, 1);
+        Check.equal("21: the first race of 16", office.tie(0, 1), 0);
+        office.code(0, 0, Make.STATED, 15);
+        office.code(0, 1, Make.STATED, 16);
+        Check.equal("21: the first race of 16, discarded", office.tie(0, 1), 2);
+        Check.equal("19: the lesser in it", office.rank(0), 1);
     }
 
     private static void stepThreeAndFour() {
@@ -210,6 +234,8 @@ final class OrderTest {
         }
         Check.equal("13: a call that throws changes nothing", office.told(0, 0), 0);
         Check.equal("13: all boats in two", office.split(4, 1), 0);
+        Check.fails("13: none of the most races is sailed", IllegalStateException.class,
+                () -> Make.regatta(40, 16).split(1, 1));
     }
 
     private static void fleetsComeFirst() {
