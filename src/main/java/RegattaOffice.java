@@ -251,6 +251,7 @@ public final class RegattaOffice {
             throws IndexOutOfBoundsException, IllegalStateException, IllegalArgumentException {
         requireRaceOfBoat(race, boat);
         requireEntry(code, argument);
+        // Supposed for this one answer only: dropped again, and the tables worked out anew when next asked.
         decisions.addOne(cell(race, boat), code, argument);
         pointTable.calculate();
         scoreTable.calculate();
@@ -647,6 +648,7 @@ public final class RegattaOffice {
         private int pointsOfPlace(int race, int place, int percent) {
             int plain = 10 * (1 + withLowerPlace[place]) + 5 * (withPlace[place] - 1);
             int more = (sizes[race] * percent + 5) / 10;
+            // Plain points are never above 10 N, so that the limit touches none without a penalty.
             return Math.min(plain + more, pointsOfLast(race));
         }
 

@@ -71,7 +71,8 @@ final class ModelTest {
         if (kind < 24) {
             int place = number(1, random.nextInt(5) == 0 ? 99 : 6);
             return compare("finish(" + race + ", " + boat + ", " + place + ")",
-                    () -> done(() -> office.finish(race, boat, place)), () -> done(() -> model.finish(race, boat, place)));
+                    () -> done(() -> office.finish(race, boat, place)),
+                    () -> done(() -> model.finish(race, boat, place)));
         }
         if (kind < 28) {
             int code = number(1, 8);
