@@ -11,6 +11,12 @@ final class AllTests {
         OrderTest.run();
         AskingTest.run();
         SheetTest.run();
+        NumbersTest.run();
+        PointsTest.run();
+        EdgesTest.run();
+        FirstExceptionTest.run();
+        RefusedTest.run();
+        ExtremesTest.run();
         ModelTest.run();
         LanguageTest.run();
         System.out.println(Check.passed + " passed, " + Check.failed + " failed");

@@ -11,6 +11,7 @@ final class EnteringTest {
         racesBehindTheSplit();
         tooManyRaces();
         abandonedRaces();
+        putInWhileAbandoned();
         noSuchRace();
     }
 
@@ -108,6 +109,22 @@ final class EnteringTest {
         Check.equal("4: no longer, again", office.abandon(0, false), false);
         Check.equal("4: net with it again", office.net(0), 30);
         Check.equal("4: the entries stayed", office.points(0, 1), 20);
+    }
+
+    private static void putInWhileAbandoned() {
+        RegattaOffice office = Make.regatta(10, 1);
+        Make.places(office, 0, 1, 2);
+        office.penalty(0, 0, 30);
+        office.abandon(0, true);
+        office.finish(0, 2, 3);
+        office.penalty(0, 1, 50);
+        Check.equal("4: a decision in it", office.protest(0, 3, Make.STATED, 7), 0);
+        Check.equal("4: it is not sailed", office.points(0, 0), RegattaOffice.NONE);
+        office.abandon(0, false);
+        Check.equal("4: the penalty stayed", office.points(0, 0), 40);
+        Check.equal("4: the one given meanwhile", office.points(0, 1), 70);
+        Check.equal("4: the place put in meanwhile", office.points(0, 2), 30);
+        Check.equal("4: the decision made meanwhile", office.points(0, 3), 7);
     }
 
     private static void noSuchRace() {

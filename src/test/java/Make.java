@@ -1,3 +1,5 @@
+import java.util.Arrays;
+
 /** Regattas that many tests begin with, and what they read of them. */
 final class Make {
     static final int QUALIFYING = 0;
@@ -23,14 +25,16 @@ final class Make {
     }
 
     static RegattaOffice regatta(int boats, int races) {
-        RegattaOffice office = new RegattaOffice();
+        return after(office -> fill(office, boats, races));
+    }
+
+    static void fill(RegattaOffice office, int boats, int races) {
         for (int boat = 0; boat < boats; boat++) {
             office.boat();
         }
         for (int race = 0; race < races; race++) {
             office.race(QUALIFYING, ALL);
         }
-        return office;
     }
 
     /** Boat 0 with the first of the places, boat 1 with the second, and so on; 0 stands for no entry. */
@@ -50,6 +54,22 @@ final class Make {
         return office;
     }
 
+    static RegattaOffice after(Script calls) {
+        RegattaOffice office = new RegattaOffice();
+        calls.on(office);
+        return office;
+    }
+
+    /**
+     * Numbers that are not first .. last: the next ones, far ones, and ones that would be within if they were cut
+     * to fewer bits.
+     */
+    static int[] outside(int first, int last) {
+        int[] numbers = {first - 1, last + 1, -first - 1, -last - 1, first - 256, last + 256, first - 65536,
+                last + 65536, first + (1 << 30), Integer.MIN_VALUE, Integer.MIN_VALUE + last, Integer.MAX_VALUE};
+        return Arrays.stream(numbers).filter(number -> number < first || number > last).distinct().toArray();
+    }
+
     static String order(RegattaOffice office, int boats) {
         StringBuilder order = new StringBuilder();
         for (int rank = 1; rank <= boats; rank++) {
@@ -66,6 +86,20 @@ final class Make {
         StringBuilder text = new StringBuilder();
         for (int i = 0; i < length; i++) {
             text.append((char) office.sheetByte(i));
+        }
+        return text.toString();
+    }
+
+    /** A sheet that is too long to be read from one object, which is promised for 512 calls only: from many alike. */
+    static String sheetInParts(Script before, int bytesOfEach) {
+        int length = after(before).sheet();
+        StringBuilder text = new StringBuilder();
+        for (int first = 0; first < length; first += bytesOfEach) {
+            RegattaOffice office = after(before);
+            office.sheet();
+            for (int i = first; i < Math.min(length, first + bytesOfEach); i++) {
+                text.append((char) office.sheetByte(i));
+            }
         }
         return text.toString();
     }

@@ -1,9 +1,12 @@
 import java.util.Random;
 import java.util.function.Supplier;
 
-/** Promises 1 to 26 in long runs of calls, each answer compared with Model's. The runs are the same each time. */
+/**
+ * Promises 1 to 26 in long runs of calls, each answer compared with Model's. The runs are the same each time, and each
+ * object has the 512 calls that are promised, no more.
+ */
 final class ModelTest {
-    private static final int RUNS = 600;
+    private static final int RUNS = 900;
     private static final int CALLS = 512;
     private static final int[] FAR_OFF = {Integer.MIN_VALUE, -2, -1, 0, 1, 7, 16, 40, 100, 1000, 10000,
             Integer.MAX_VALUE};
@@ -19,6 +22,8 @@ final class ModelTest {
     private int entered = 0;
     private int made = 0;
     private boolean isSplit = false;
+    private boolean splitWasTried = false;
+    private int calls = 0;
 
     private ModelTest(int seed) {
         random = new Random(seed);
@@ -36,13 +41,27 @@ final class ModelTest {
     }
 
     private String firstDifference() {
-        for (int call = 0; call < CALLS; call++) {
-            String difference = call < boats ? boat() : call == splitAt ? split() : anyCall();
+        // One turn may take six calls, and sheet() one more.
+        int leftForTheSheet = 7 + random.nextInt(200);
+        while (calls < CALLS - leftForTheSheet) {
+            String difference = nextCall();
             if (difference != null) {
-                return "call " + call + ": " + difference;
+                return "call " + calls + ": " + difference;
             }
         }
-        return "all calls as the model";
+        String difference = sheet(0, CALLS - calls - 1);
+        return difference == null ? "all calls as the model" : "the last sheet: " + difference;
+    }
+
+    private String nextCall() {
+        if (calls < boats) {
+            return boat();
+        }
+        if (calls >= splitAt && !splitWasTried) {
+            splitWasTried = true;
+            return split();
+        }
+        return anyCall();
     }
 
     private String anyCall() {
@@ -71,21 +90,21 @@ final class ModelTest {
         if (kind < 24) {
             int place = number(1, random.nextInt(5) == 0 ? 99 : 6);
             return compare("finish(" + race + ", " + boat + ", " + place + ")",
-                    () -> done(() -> office.finish(race, boat, place)),
-                    () -> done(() -> model.finish(race, boat, place)));
+                    () -> State.done(() -> office.finish(race, boat, place)),
+                    () -> State.done(() -> model.finish(race, boat, place)));
         }
         if (kind < 28) {
             int code = number(1, 8);
             int argument = argumentOf(code);
             return compare("code(" + race + ", " + boat + ", " + code + ", " + argument + ")",
-                    () -> done(() -> office.code(race, boat, code, argument)),
-                    () -> done(() -> model.code(race, boat, code, argument)));
+                    () -> State.done(() -> office.code(race, boat, code, argument)),
+                    () -> State.done(() -> model.code(race, boat, code, argument)));
         }
         if (kind < 32) {
             int percent = number(0, 100);
             return compare("penalty(" + race + ", " + boat + ", " + percent + ")",
-                    () -> done(() -> office.penalty(race, boat, percent)),
-                    () -> done(() -> model.penalty(race, boat, percent)));
+                    () -> State.done(() -> office.penalty(race, boat, percent)),
+                    () -> State.done(() -> model.penalty(race, boat, percent)));
         }
         return compare("clear(" + race + ", " + boat + ")",
                 () -> office.clear(race, boat), () -> model.clear(race, boat));
@@ -107,7 +126,7 @@ final class ModelTest {
                     () -> office.what(race, boat, code, argument), () -> model.what(race, boat, code, argument));
         }
         return compare("reopen(" + decision + ")",
-                () -> done(() -> office.reopen(decision)), () -> done(() -> model.reopen(decision)));
+                () -> State.done(() -> office.reopen(decision)), () -> State.done(() -> model.reopen(decision)));
     }
 
     private String rule(int kind) {
@@ -128,7 +147,7 @@ final class ModelTest {
         int from = number(1, random.nextBoolean() ? 5 : 16);
         int n = number(1, random.nextBoolean() ? 3 : 15);
         return compare("discards(" + from + ", " + n + ")",
-                () -> done(() -> office.discards(from, n)), () -> done(() -> model.discards(from, n)));
+                () -> State.done(() -> office.discards(from, n)), () -> State.done(() -> model.discards(from, n)));
     }
 
     private String ask(int kind) {
@@ -155,7 +174,7 @@ final class ModelTest {
         if (kind < 76) {
             return compare("rank(" + boat + ")", () -> office.rank(boat), () -> model.rank(boat));
         }
-        return kind < 88 ? askForTwo(kind, boat) : kind < 91 ? told() : kind < 96 ? wholeSheet() : sheetByte();
+        return kind < 88 ? askForTwo(kind, boat) : kind < 91 ? told() : kind < 96 ? sheet(random.nextInt(80), 5) : sheetByte();
     }
 
     private String askForTwo(int kind, int boat) {
@@ -208,15 +227,14 @@ final class ModelTest {
         return compare("sheetByte(" + i + ")", () -> office.sheetByte(i), () -> model.sheetByte(i));
     }
 
-    private String wholeSheet() {
-        return compare("sheet()", () -> Make.sheet(office), () -> {
-            StringBuilder text = new StringBuilder();
-            int length = model.sheet();
-            for (int i = 0; i < length; i++) {
-                text.append((char) model.sheetByte(i));
-            }
-            return text.toString();
-        });
+    /** So many bytes of a new sheet, or as many as it has. */
+    private String sheet(int first, int bytes) {
+        String difference = compare("sheet()", office::sheet, model::sheet);
+        for (int i = first; i < first + bytes && difference == null; i++) {
+            int index = i;
+            difference = compare("sheetByte(" + i + ")", () -> office.sheetByte(index), () -> model.sheetByte(index));
+        }
+        return difference;
     }
 
     private int someRace() {
@@ -243,22 +261,10 @@ final class ModelTest {
         return luck == 1 ? last + 1 : luck == 2 ? first - 1 : first + random.nextInt(last - first + 1);
     }
 
-    private static String done(Runnable call) {
-        call.run();
-        return "done";
-    }
-
-    private static String compare(String call, Supplier<Object> office, Supplier<Object> model) {
-        String answer = answerOf(office);
-        String due = answerOf(model);
+    private String compare(String call, Supplier<Object> office, Supplier<Object> model) {
+        calls++;
+        String answer = State.answerOf(office);
+        String due = State.answerOf(model);
         return answer.equals(due) ? null : call + " answered " + answer + ", due is " + due;
-    }
-
-    private static String answerOf(Supplier<Object> call) {
-        try {
-            return String.valueOf(call.get());
-        } catch (RuntimeException e) {
-            return "throws." + e.getClass().getSimpleName();
-        }
     }
 }

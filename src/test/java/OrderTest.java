@@ -8,8 +8,10 @@ final class OrderTest {
         ranksByNet();
         stepOne();
         stepOneWithFewerScores();
+        stepOneAtEachPlace();
         stepTwo();
         stepTwoInTheMostRaces();
+        stepTwoInEachRace();
         stepThreeAndFour();
         tiesThatAreNone();
         splitting();
@@ -92,6 +94,22 @@ final class OrderTest {
         Check.equal("19: discarded scores part them", office.rank(0), 1);
     }
 
+    /** The first difference at the least score of 16, at the second, .. and at the last but one. */
+    private static void stepOneAtEachPlace() {
+        for (int place = 0; place < 15; place++) {
+            RegattaOffice office = Make.regatta(2, 16);
+            for (int race = 0; race < 16; race++) {
+                int more = race == place ? -1 : race == place + 1 ? 1 : 0;
+                // Not in the order of the races: 5 and 16 have no common divisor.
+                office.code(5 * race % 16, 0, Make.STATED, 100 * race + 100);
+                office.code(5 * race % 16, 1, Make.STATED, 100 * race + 100 + more);
+            }
+            office.lot(0, 1);
+            Check.equal("21: the first difference at " + place, office.tie(0, 1), 1);
+            Check.equal("20: the lesser one is before", Make.order(office, 2), "1 0");
+        }
+    }
+
     private static void stepTwo() {
         RegattaOffice office = Make.regatta(3, 3);
         Make.places(office, 0, 1, 2, 3);
@@ -132,6 +150,24 @@ final class OrderTest {
         office.code(0, 1, Make.STATED, 16);
         Check.equal("21: the first race of 16, discarded", office.tie(0, 1), 2);
         Check.equal("19: the lesser in it", office.rank(0), 1);
+    }
+
+    private static void stepTwoInEachRace() {
+        for (int race = 1; race < 16; race++) {
+            RegattaOffice office = Make.regatta(2, 16);
+            for (int other = 0; other < 16; other++) {
+                Make.places(office, other, 1, 1);
+            }
+            office.finish(0, 0, 2);
+            office.finish(race, 1, 2);
+            office.lot(1, 1);
+            Check.equal("21: the last difference in race " + race, office.tie(0, 1), 2);
+            Check.equal("20: the lesser in race " + race, Make.order(office, 2), "0 1");
+            office.abandon(race, true);
+            office.abandon(0, true);
+            Check.equal("21: without both the lots", office.tie(0, 1), 3);
+            Check.equal("20: the one with a lot", Make.order(office, 2), "1 0");
+        }
     }
 
     private static void stepThreeAndFour() {

@@ -1,0 +1,4 @@
+/** Calls on one object, in their order. */
+interface Script {
+    void on(RegattaOffice office);
+}
