@@ -46,10 +46,6 @@ final class SheetTest {
                 + "9. 4 12.0 (12.0) 12.0DSQ\n"
                 + "10. 5 12.0 (12.0) 12.0DNE\n"
                 + "11. 10 12.0 (12.0) 12.0DNC\n");
-        office.protest(0, 9, Make.PLACE, 4);
-        office.penalty(0, 0, 0);
-        String sheet = Make.sheet(office);
-        Check.equal("25: a decided place has no penalty", sheet.contains("SCP"), false);
     }
 
     private static void discardedScores() {
