@@ -19,6 +19,7 @@ final class AllTests {
         ExtremesTest.run();
         ModelTest.run();
         LanguageTest.run();
+        ReadmeTest.run();
         System.out.println(Check.passed + " passed, " + Check.failed + " failed");
         if (Check.failed > 0) {
             System.exit(1);

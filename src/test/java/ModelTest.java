@@ -174,7 +174,13 @@ final class ModelTest {
         if (kind < 76) {
             return compare("rank(" + boat + ")", () -> office.rank(boat), () -> model.rank(boat));
         }
-        return kind < 88 ? askForTwo(kind, boat) : kind < 91 ? told() : kind < 96 ? sheet(random.nextInt(80), 5) : sheetByte();
+        if (kind < 88) {
+            return askForTwo(kind, boat);
+        }
+        if (kind < 91) {
+            return told();
+        }
+        return kind < 96 ? sheet(random.nextInt(80), 5) : sheetByte();
     }
 
     private String askForTwo(int kind, int boat) {
